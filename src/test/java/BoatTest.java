@@ -48,6 +48,18 @@ public final class BoatTest {
     y.minutes(1);
     Due.is("first of bank 1", y.boat(2), 0);
     Due.is("second of bank 1", y.boat(3), 2);
+    ArguedFerry nine = new ArguedFerry();
+    for (int one = 0; one < 9; one++) {
+      nine.one(0, one == 3 || one == 8 ? 0 : 1);
+    }
+    nine.minutes(1);
+    Due.is("3 of nine", nine.boat(2), 3);
+    Due.is("8 of nine", nine.boat(3), 8);
+    nine.minutes(1);
+    nine.set(8, 1, 1);
+    nine.minutes(1);
+    Due.is("3 alone", nine.boat(2), NONE);
+    Due.is("idle", nine.ferry(3), 1);
   }
 
   private static void argues() {
@@ -149,7 +161,20 @@ public final class BoatTest {
     y.rule(0, 3);
     y.minutes(3);
     state(y, "against the wind", 1, 0, 1, 1, 0, 0, 0, 1, 0, 1, 3);
-    // silent ones that are of one mind drift by 1 and wind, though they speak by 0
+    // of one mind from way 12 on: less by 1 and wind 4
+    ArguedFerry drift = two(5, 3, 5, -3, 0);
+    drift.minutes(2);
+    drift.rule(0, 4);
+    for (int matter = 0; matter < 6; matter++) {
+      drift.believes(0, matter, -3);
+    }
+    drift.minutes(1);
+    state(drift, "drifting", 0, 7, 2, 2, 0, 0, 0, 0, 0, 0, 3);
+    drift.minutes(1);
+    state(drift, "drifting", 0, 2, 2, 2, 0, 0, 0, 0, 0, 0, 4);
+    drift.minutes(1);
+    state(drift, "stranded", 0, 0, 0, 0, 0, 0, 0, 1, 0, 0, 5);
+    // a hired one speaks by 3 even then
     ArguedFerry z = two(2, 0, 5, 0, 0);
     z.rule(0, 0);
     z.minutes(2);

@@ -95,6 +95,7 @@ public final class RowsTest {
     for (int again = 0; again < 3; again++) {
       x.deal(2 + again);
       x.one(3, 1);
+      x.set(4, 2, 66);
       x.turns(0, 5);
       x.believes(1, 1, again);
       x.set(2, 2, 7);

@@ -92,6 +92,14 @@ public final class SheetsTest {
     x.minutes(1);
     x.mark(1, 0, 9);
     Due.is("one aboard, too", x.pour(1), 1);
+    ArguedFerry nine = new ArguedFerry();
+    nine.deal(9);
+    nine.sheet(0, 0, 24);
+    for (int place = 0; place < 24; place++) {
+      nine.mark(0, place, 50 + place);
+    }
+    Due.is("all nine", nine.pour(0), 9);
+    Due.is("all nine", nine.ferry(5), 9 * 50 + 36);
     Due.is("missing", x.pour(2), NOTHING);
     for (int wrong : WRONG_SHEETS) {
       Due.is("sheet", x.pour(wrong), BAD);

@@ -61,6 +61,13 @@ public final class TextsTest {
     fault("fine c", 5);
     fault("fine n", 5);
     fault("fee cs", 4);
+    fault("fee ca", 4);
+    fault("fee cz", 4);
+    fault("fee c`", 5);
+    fault("fee c{", 5);
+    fault("fee 1/", 6);
+    fault("fee 1:", 5);
+    fault("fee 10/90", -1);
     fault("fee c s", 6);
     fault("fee c5", 5);
     fault("fee 5c", 5);
@@ -129,6 +136,7 @@ public final class TextsTest {
     gives("0/0", 0);
     gives("1<2", 1);
     gives("2<1", 0);
+    gives("2<2", 0);
     gives("2=2", 1);
     gives("2=3", 0);
     gives("3>2", 1);
@@ -246,6 +254,10 @@ public final class TextsTest {
     Due.is("another second", x.textTold(1, 0), 2);
     Due.is("the first counts", x.fee(), 1000);
     Due.is("a fault", Due.text(x, "speech d*"), -109);
+    Due.is("a fault at a word", Due.text(x, "fine 1+2+x"), -109);
+    Due.is("behind one", Due.text(x, "fine 5"), 2);
+    Due.is("nothing of what had faults", x.textTold(2, 1), 1);
+    Due.is("nothing of what had faults", x.textTold(2, 0), 2);
     x.back();
     Due.is("none again", x.why(2), NONE);
     Due.is("the first counts", x.fee(), 1000);

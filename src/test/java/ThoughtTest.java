@@ -26,6 +26,15 @@ public final class ThoughtTest {
     }
     Due.is("soonest, least", x.settles(0, 1, 0), 3);
     Due.is("minutes", x.settles(0, 1, 1), 3);
+    x.believes(0, 3, 2);
+    Due.is("soonest", x.settles(0, 1, 0), 5);
+    Due.is("minutes", x.settles(0, 1, 1), 3);
+    x.believes(0, 3, 3);
+    x.believes(0, 0, -3);
+    x.believes(1, 0, 3);
+    Due.is("matter 0", x.settles(1, 0, 0), 0);
+    x.believes(0, 0, 0);
+    x.believes(1, 0, 1);
     Due.is("nothing changes", x.boat(1) + x.count(1) + x.ferry(0), 0);
     Due.is("nothing is drawn", x.count(7), z);
     x.set(0, 1, 1);
@@ -129,6 +138,12 @@ public final class ThoughtTest {
       Due.is("n", x.behind(wrong, 0), BAD);
       Due.is("what", x.behind(0, wrong), BAD);
     }
+    ArguedFerry others = goats("333333", "333333", "000000", "666666");
+    others.set(0, 1, 1);
+    others.set(1, 1, 1);
+    others.minutes(2);
+    Due.is("2 and 3 are aboard", others.boat(2) + 10 * others.boat(3), 32);
+    Due.is("2 and 3 will be over", others.behind(2, 4), 15);
     ArguedFerry y = new ArguedFerry();
     Due.is("idle", y.behind(100, 3), 100);
     Due.is("nobody", y.behind(0, 5), BAD);
@@ -196,6 +211,8 @@ public final class ThoughtTest {
     Due.is("crossed", x.becomes(0, 4, 1), 2);
     Due.is("no kind is behind 2: the least", x.becomes(0, 2, 0), 0);
     Due.is("crossed", x.becomes(0, 2, 1), 0);
+    Due.is("behind 1", x.becomes(0, 1, 1), 0);
+    Due.that("behind 60", x.becomes(0, 60, 1) >= 2);
     x.rule(1, 99);
     Due.is("married or twice is over behind 4", x.becomes(0, 4, 0), 1);
     Due.is("of hired and twice, which both are, the least", x.becomes(1, 4, 0), 2);
@@ -239,6 +256,13 @@ public final class ThoughtTest {
       Due.is("sheet", x.like(wrong, 0), BAD);
       Due.is("what", x.like(0, wrong == 4 ? 2 : wrong), BAD);
     }
+    ArguedFerry nine = new ArguedFerry();
+    nine.seed(3);
+    nine.deal(9);
+    nine.set(8, 2, 33);
+    nine.sheet(0, 0, 1);
+    nine.mark(0, 0, 32767);
+    Due.is("the last of nine", nine.like(0, 0), 8);
     ArguedFerry y = new ArguedFerry();
     Due.is("what, ahead of a missing sheet", y.like(0, 2), BAD);
     Due.is("a missing sheet, ahead of nobody", y.like(0, 0), NOTHING);
