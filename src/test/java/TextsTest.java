@@ -50,6 +50,9 @@ public final class TextsTest {
     fault("feec", 0);
     fault(" feec", 1);
     fault("fe c", 0);
+    fault("xee c", 0);
+    fault("fxe c", 0);
+    fault("fex c", 0);
     fault("Fee c", 0);
     fault("5 c", 0);
     fault("speech d+t*n", -1);
