@@ -1120,7 +1120,7 @@ public final class ArguedFerry {
 
     /** A law as it is worked out: each sign stands behind what it works on. */
     private static final class Text {
-        /** Codes below this one are NUMBERS, from it on it and a sign; NAMES are -1, -2, -3. */
+        /** A code is a NUMBER (0 to 9999), a NAME (-1, -2, -3), or a sign's byte and this, so that the three never meet. */
         private static final int SIGNS = 10000;
 
         private final int number;
