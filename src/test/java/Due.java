@@ -2,15 +2,25 @@
 final class Due {
   private static int asked = 0;
   private static int wrong = 0;
+  private static String about = "";
 
   private Due() {
+  }
+
+  /** What is said ahead of each answer that differs, from now on. */
+  static void about(String what) {
+    about = what;
+  }
+
+  static int asked() {
+    return asked;
   }
 
   static void is(String call, int got, int want) {
     asked++;
     if (got != want) {
       wrong++;
-      System.out.println(call + " answered " + got + ", due is " + want);
+      System.out.println(about + call + " answered " + got + ", due is " + want);
     }
   }
 
@@ -18,7 +28,7 @@ final class Due {
     asked++;
     if (!holds) {
       wrong++;
-      System.out.println("not so: " + what);
+      System.out.println(about + "not so: " + what);
     }
   }
 

@@ -8,6 +8,8 @@ import java.util.Random;
 /** Runs of calls by lot, on ArguedFerry and on FerryModel: they must answer alike. The seeds are told, so that runs are the same each time. */
 public final class ModelTest {
   private static final int RUNS = 3000;
+  /** An object takes 512 calls; a turn of a run makes at most some 70. */
+  private static final int LAST_TURN_FROM = 512 - 70;
   /** Each call with the least and the most of what each of its numbers should mostly be. */
   private static final String[] CALLS = {
     "one 0 5 0 1", "one 0 5 0 1", "told 0 8 0 3", "told 0 4 0 3", "view 0 8 0 5", "believes 0 8 0 5 -3 3", "believes 0 4 0 5 -3 3",
@@ -27,8 +29,10 @@ public final class ModelTest {
   private ArguedFerry ferry;
   private FerryModel model;
   private String run;
+  private int calls;
 
   private int call(String name, int... a) throws ReflectiveOperationException {
+    calls++;
     Object[] boxed = Arrays.stream(a).boxed().toArray();
     int got = (Integer) methods.get(name).invoke(ferry, boxed);
     Due.is(run + name + Arrays.toString(a), got, model.call(name, a));
@@ -148,12 +152,13 @@ public final class ModelTest {
     lot = new Random(seed);
     ferry = new ArguedFerry();
     model = new FerryModel();
+    calls = 0;
     if (lot.nextInt(4) > 0) {
       call("seed", lot.nextInt());
       call("deal", 1 + lot.nextInt(9));
     }
     int many = 1 + lot.nextInt(400);
-    for (int i = 0; i < many; i++) {
+    for (int i = 0; i < many && calls <= LAST_TURN_FROM; i++) {
       run = "run " + seed + ", turn " + i + ": ";
       int how = lot.nextInt(60);
       if (how < 2) {

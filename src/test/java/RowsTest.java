@@ -92,7 +92,7 @@ public final class RowsTest {
     x.set(0, 2, 55);
     int[] was = all(x);
     Due.is("keep", x.keep(), 4);
-    for (int again = 0; again < 3; again++) {
+    for (int again = 0; again < 2; again++) {
       x.deal(2 + again);
       x.one(3, 1);
       x.set(4, 2, 66);
