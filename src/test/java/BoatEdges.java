@@ -253,6 +253,12 @@ final class BoatEdges {
       Due.is("kind " + kind, x.told(0, 2), 10 + heat[kind]);
       Due.is("the goat", x.told(1, 2), 7);
     }
+    ArguedFerry spoken = two(PASSENGER, 3, PASSENGER, -3);
+    Due.text(spoken, "speech t+1");
+    spoken.minutes(2);
+    Due.is("they speak ahead of the heat of that minute", spoken.boat(1), 1 + 1 + 1 - 1);
+    spoken.minutes(1);
+    Due.is("and behind that of the one before", spoken.boat(1), 2 + 7 + 7 - 1);
     ArguedFerry hot = two(MARRIED, 3, MARRIED, -3);
     hot.rule(1, 99);
     hot.minutes(1);
