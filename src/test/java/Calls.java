@@ -1,6 +1,7 @@
 import java.lang.reflect.Method;
 import java.util.HashMap;
 import java.util.Map;
+import java.util.Set;
 
 /** Makes calls that are told by texts, as "one 6 0". */
 final class Calls {
@@ -31,6 +32,10 @@ final class Calls {
   /** A number by its digits, or by its name: LEAST and MOST of ints, or a constant of the document. */
   static int number(String word) {
     return NAMED.containsKey(word) ? NAMED.get(word) : Integer.parseInt(word);
+  }
+
+  static Set<String> names() {
+    return METHODS.keySet();
   }
 
   static String name(String call) {
